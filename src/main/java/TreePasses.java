@@ -36,6 +36,10 @@ public final class TreePasses {
 
     private static final int[] CHILDREN = {0, 0, 1, 2, 2};
 
+    /** Bit i of the k-th is bit k of i: where one of six answers is 1, among all the ways they can be. */
+    private static final long[] WHERE = {0xAAAAAAAAAAAAAAAAL, 0xCCCCCCCCCCCCCCCCL, 0xF0F0F0F0F0F0F0F0L,
+        0xFF00FF00FF00FF00L, 0xFFFF0000FFFF0000L, 0xFFFFFFFF00000000L};
+
     private static final String AT_FIRST =
         "t0=dcab;t1=ccb;t2=edabca;m0b=1;m0c=01;m0d=0110;m1a=1;m1d=0001;r00a*=b;r00b*=ca;r00c*=d0x1x;r00d0=e1y0x;r00d1=c0x;r01a*=a;r01c*=1x;r10a*=a;r10b*=cb;r10c*=0x;r10d*=d1x0y;r11a*=b;r11b*=a;";
 
@@ -1071,6 +1075,8 @@ public final class TreePasses {
     /**
      * The profiles of all trees by a pass, settled from the least tree on, by nodes, then letters.
      * A least tree is held as its letter and the profiles of its subtrees, which are least too.
+     * The type of what a rule makes hangs on six answers at most, of three states for two children:
+     * it is worked out once a rule, for all 64 ways that they can be, since it is asked for each two profiles.
      */
     private static final class Census {
         private final int pass;
@@ -1080,7 +1086,12 @@ public final class TreePasses {
         private final int[] sizes = new int[PROFILES];
         private final int[] order = new int[PROFILES];
         private final boolean[] settled = new boolean[PROFILES];
-        private final int[] stack = new int[PIECES];
+        private final int[] ones = new int[PROFILES];
+        private final int[] lacks = new int[PROFILES];
+        private final int[] taken = new int[LETTERS * ANY * STATES];
+        private final int[] calls = new int[RULES];
+        private final long[] types = new long[RULES];
+        private final long[] stack = new long[PIECES];
         private int met;
         private boolean fresh;
 
@@ -1096,21 +1107,15 @@ public final class TreePasses {
             if (fresh) {
                 return;
             }
-            Arrays.fill(sizes, 0);
-            for (int profile = 0; profile < PROFILES; profile++) {
-                settled[profile] = false;
-            }
-            met = 0;
+            begin(program);
             offer(program, 0, NONE, NONE);
             offer(program, 1, NONE, NONE);
             for (int n = 0; n < PROFILES; n++) {
                 int profile = nearest();
-                if (profile < 0) {
+                if (!within(profile, PROFILES)) {
                     break;
                 }
-                settled[profile] = true;
-                order[n] = profile;
-                met = n + 1;
+                settle(profile, n);
                 offer(program, 2, profile, NONE);
                 for (int k = 0; k <= n; k++) {
                     offer(program, 3, profile, order[k]);
@@ -1122,6 +1127,38 @@ public final class TreePasses {
                 }
             }
             fresh = true;
+        }
+
+        private void begin(Program program) {
+            met = 0;
+            Arrays.fill(sizes, 0);
+            for (int profile = 0; profile < PROFILES; profile++) {
+                settled[profile] = false;
+            }
+            for (int r = 0; r < RULES; r++) {
+                if (program.hasRule(r) && program.cell(r, PASS) == pass) {
+                    workOut(program, r);
+                }
+            }
+            for (int at = 0; at < taken.length; at++) {
+                taken[at] = program.chosenRule(pass, at % STATES, at / STATES / ANY, at / STATES % ANY);
+            }
+        }
+
+        private void settle(int profile, int n) {
+            settled[profile] = true;
+            order[n] = profile;
+            met = n + 1;
+            ones[profile] = 0;
+            lacks[profile] = 0;
+            for (int q = 0; q < STATES; q++) {
+                int type = typeIn(profile, q);
+                if (type == 1) {
+                    ones[profile] |= 1 << q;
+                } else if (type == LACKING) {
+                    lacks[profile] |= 1 << q;
+                }
+            }
         }
 
         /** How many nodes the least tree has: 0 if there is none, 41 if more than 40. */
@@ -1210,43 +1247,75 @@ public final class TreePasses {
         }
 
         private int profileOf(Program program, int f, int left, int right) {
-            int k = childrenOf(f) > 0 ? left & 1 : 0;
-            if (childrenOf(f) > 1) {
+            int k = 0;
+            int lacking = 0;
+            int one = 0;
+            if (within(left, PROFILES)) {
+                k = left & 1;
+                lacking = lacks[left];
+                one = ones[left];
+            }
+            if (within(right, PROFILES)) {
                 k = 2 * k + (right & 1);
+                lacking |= lacks[right] << STATES;
+                one |= ones[right] << STATES;
             }
             int look = program.entry(LOOK, f, k);
-            return look + 2 * typeMade(program, program.chosenRule(pass, 0, f, look), f, left, right)
-                + 6 * typeMade(program, program.chosenRule(pass, 1, f, look), f, left, right)
-                + 18 * typeMade(program, program.chosenRule(pass, 2, f, look), f, left, right);
+            int profile = look;
+            int weight = 2;
+            int at = (f * ANY + look) * STATES;
+            for (int q = 0; q < STATES && within(at + q, taken.length); q++) {
+                int r = taken[at + q];
+                boolean stuck = !within(r, RULES) || (calls[r] & lacking) != 0;
+                profile += weight * (stuck ? LACKING : (int) (types[r] >>> one & 1));
+                weight *= 3;
+            }
+            return profile;
         }
 
-        /** The type of what a rule makes, worked out from its last piece to its first. */
-        private int typeMade(Program program, int r, int f, int left, int right) {
-            if (r < 0) {
-                return LACKING;
-            }
+        /** From the last piece of a rule to its first, so that a letter finds its children on the stack. */
+        private void workOut(Program program, int r) {
+            int f = program.cell(r, LETTER);
             int held = 0;
-            for (int i = program.cell(r, SIZE) - 1; i >= 0 && held < PIECES; i--) {
+            int called = 0;
+            for (int i = program.cell(r, SIZE) - 1; i >= 0; i--) {
                 int piece = program.pieceOf(r, i);
-                int type;
+                long type;
                 if (piece >= CALL) {
-                    int child = program.childCalled(pass, f, piece);
-                    type = typeIn(child == 0 ? left : right, stateCalled(piece));
-                    if (type == LACKING) {
-                        return LACKING;
-                    }
+                    int answer = STATES * program.childCalled(pass, f, piece) + stateCalled(piece);
+                    called |= 1 << answer;
+                    type = within(answer, WHERE.length) ? WHERE[answer] : 0;
                 } else {
-                    int k = 0;
-                    for (int child = 0; child < childrenOf(piece) && held > 0; child++) {
-                        held--;
-                        k = 2 * k + stack[held];
-                    }
-                    type = program.entry(TYPE, piece, k);
+                    type = typeAbove(program, piece, held);
+                    held -= childrenOf(piece);
                 }
-                stack[held] = type;
-                held++;
+                if (within(held, PIECES)) {
+                    stack[held] = type;
+                    held++;
+                }
             }
-            return stack[0];
+            calls[r] = called;
+            types[r] = stack[0];
+        }
+
+        /** The type of a node whose children are the last on the stack, the first child the very last. */
+        private long typeAbove(Program program, int f, int held) {
+            int children = childrenOf(f);
+            if (held < children || held > PIECES) {
+                return 0;
+            }
+            long type = 0;
+            for (int k = 0; k < 1 << children; k++) {
+                if (program.entry(TYPE, f, k) == 1) {
+                    long so = -1;
+                    for (int child = 0; child < children; child++) {
+                        long of = stack[held - 1 - child];
+                        so &= (k >> (children - 1 - child) & 1) == 1 ? of : ~of;
+                    }
+                    type |= so;
+                }
+            }
+            return type;
         }
 
         private static int typeIn(int profile, int q) {

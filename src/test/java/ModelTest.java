@@ -549,7 +549,7 @@ public final class ModelTest {
         return s.toString();
     }
 
-    /** Programs found by climbing: least trees of more than 40 nodes, or states stuck or typed late. */
+    /** Programs found by climbing: least trees of 40 nodes, of more, states that are stuck late. */
     static final String[] FAR = {
         "m0a=1;m0b=1;m0c=01;m0d=0011;m0e=0100;m1a=1;m1c=11;m1d=0110;m1e=1100;r01e0=2y;r02e1=e1y1y;r00c0=e2x1x;r00e1=a;r02d1=2x;r01d1=1y;r02e0=e1xd2xb;r02d0=0y;r02d1=c0y;r02d0=b;r02c1=e1x1x;r02e1=b;r01d1=1x;r02d1=ea0y;r00c0=2x;r00e0=0x;",
         "m0a=1;m0b=1;m0c=10;m0d=1101;m0e=1011;m1b=1;m1c=01;m1d=1111;m1e=1110;r02e0=1y;r01d0=a;r00d1=0x;r01d0=a;r00c0=d2x1x;r02e*=e2y2y;r01e*=1x;r01d1=0x;r00d0=eee0x0x1y2y;r02d1=2x;r00c1=0x;r02d1=dbd2y2x;r01d0=1x;r00e1=d0x0x;r02e*=0x;r02e0=e0x1x;",
@@ -566,7 +566,15 @@ public final class ModelTest {
         "m0a=1;m0b=1;m0c=11;m0d=1000;m0e=0111;m1a=1;m1b=1;m1c=11;m1d=1011;m1e=1110;r02e*=a;r00e*=e2y1x;r02c*=b;r02d0=2y;r00a*=a;r02d1=0y;r01b1=b;r02b*=a;r00d0=2x;r01e*=c0x;r01d*=1y;r01a*=b;r02a1=cdab;r01c1=2x;r00b1=edbaa;r00c1=2x;",
         "m0a=1;m0b=1;m0c=11;m0d=0111;m0e=1000;m1a=1;m1b=1;m1c=01;m1e=1000;r00d*=1y;r02b1=eadcab;r01a*=b;r01e*=db1x;r00e0=ee2xbdb2x;r01c*=ecb1x;r00a1=b;r01d0=2x;r01d*=a;r02d*=0y;r00b*=cb;r01b*=dacb;r00c*=0x;r02c1=2x;r02a1=dbca;r02e*=b;",
         "m0d=0010;m0e=1110;m1a=1;m1b=1;m1c=01;m1d=1000;m1e=1101;r00e*=d1y0y;r01e*=a;r00b*=cebcb;r01d0=1x;r00a*=a;r01c*=1x;r02a0=eba;r02d0=c2x;r00c*=b;r00d0=1y;r01b*=b;r01d*=d1x0y;r01a*=a;r00d*=c2y;r02b*=a;r02c*=a;",
-        "m0d=0001;m0e=1110;m1b=1;m1c=10;m1e=0010;r02e0=0x;r01d*=2y;r02a*=dbb;r02e1=2x;r02c0=2x;r01b*=a;r01e1=cea0x;r02b0=daa;r00e*=d2yb;r00d*=1x;r01c0=b;r00a0=eebab;r02d*=2x;r00b0=dadebba;r01a*=dba;r00c*=dcba;"
+        "m0d=0001;m0e=1110;m1b=1;m1c=10;m1e=0010;r02e0=0x;r01d*=2y;r02a*=dbb;r02e1=2x;r02c0=2x;r01b*=a;r01e1=cea0x;r02b0=daa;r00e*=d2yb;r00d*=1x;r01c0=b;r00a0=eebab;r02d*=2x;r00b0=dadebba;r01a*=dba;r00c*=dcba;",
+        "m0a=1;m0b=1;m0c=11;m0d=0010;m0e=0011;m1b=1;m1c=01;m1d=1001;m1e=1110;r02e0=c0x;r00d1=2x;r02d0=ec0x2x;r02c*=c2x;r01c*=1x;r01d1=b;r00e0=0y;r01c0=1x;r01e0=0x;r00d1=b;r02c0=0x;r02e1=1y;r00d1=a;r00c0=0x;r00e0=0y;",
+        "m0c=01;m0d=1101;m0e=0001;m1b=1;m1c=11;m1d=1000;m1e=0110;r00c0=ec1x2x;r02e1=1x;r00c*=2x;r01d0=0y;r02a*=cb;r00d0=0x;r00b1=a;r02b1=a;r01e*=b;r02d0=1y;r02e1=cdd2yb0x;r00c0=a;r00c1=1x;r01d0=c2y;r00c0=a;r01e*=1y;",
+        "m0a=1;m0b=1;m0c=01;m0d=0100;m0e=0010;m1a=1;m1b=1;m1c=10;m1d=0110;m1e=1111;r01d*=2x;r00d*=1y;r02c0=dd0x1xb;r01c0=b;r02d1=e0y1y;r01e1=de0xa1x;r01e*=dca0x;r00e0=0y;r00e1=dce2y2x0y;r01b0=ca;r02c1=0x;r00e1=1x;r01e1=a;r02d1=1y;r01d1=0x;r00e1=a;",
+        "m0a=1;m0b=1;m0c=11;m0d=1011;m0e=1100;m1b=1;m1c=11;m1d=1110;m1e=0111;r02d1=0y;r02d*=dbee2x0y0y;r00d1=1x;r01d0=1y;r00d*=b;r01d1=dd1x2x0y;r02e*=e1yb;r02c1=0x;r02e*=0x;r00d0=0x;r01c0=1x;r01e1=c1x;r02d0=0x;r01e*=2x;r02c0=a;r01e0=c2x;",
+        "m0c=01;m0d=0001;m0e=1111;m1a=1;m1d=1011;m1e=1010;r02d*=1y;r01e0=c0x;r00d1=da2y;r00d*=d2y0x;r01c*=d0x0x;r01d1=a;r00e*=0y;r01e1=1y;r00c0=0x;r02c0=ce2x0x;r01d1=0x;r02a*=ebb;r01e0=a;r02d1=0x;r00e*=0y;r02c*=1x;",
+        "m0d=0100;m0e=1110;m1a=1;m1b=1;m1c=11;m1d=0100;m1e=0101;r01d*=c2x;r00d*=ee0yc2xa;r01e*=ee2ye1yb0x;r02e*=1x;r02e0=a;r00c0=d1xd1x0x;r00e0=1x;r00c*=1x;r01e0=b;r02d0=1x;r01c0=c1x;r00e1=0x;r01e0=d0y0x;r02d1=a;r02d0=0x;r01e*=0x;",
+        "m0c=11;m0d=0001;m0e=0001;m1b=1;m1c=10;m1d=0110;m1e=1110;r02d0=0x;r00d0=b;r02d*=e0x2y;r00d1=2y;r01e0=1y;r00e1=1x;r01c0=0x;r02e*=ce0x0x;r01c*=1x;r00d*=0x;r00d*=a;r02c0=1x;r01e0=b;r02e1=d1y0y;r01d*=d2yd2x2y;r02e1=0x;",
+        "m0c=01;m0d=1100;m0e=0001;m1d=1001;m1e=0100;r00e1=a;r01d1=1y;r02d0=0y;r01d*=d2x2y;r00c0=c0x;r02c0=da0x;r02c0=1x;r02e1=0y;r00d1=2y;r00d1=eab;r01e1=1y;r02c0=b;r02d1=d2x1x;r02d1=1x;r00d0=c1y;r02c1=d1x2x;"
     };
 
     // ---- the class beside the model
