@@ -407,7 +407,6 @@ public final class TreePasses {
             Arrays.fill(kinds, 0);
             Arrays.fill(entries, 0);
             ruled = 0;
-            choose();
         }
 
         void copy(Program other) {
