@@ -574,7 +574,12 @@ public final class ModelTest {
         "m0c=01;m0d=0001;m0e=1111;m1a=1;m1d=1011;m1e=1010;r02d*=1y;r01e0=c0x;r00d1=da2y;r00d*=d2y0x;r01c*=d0x0x;r01d1=a;r00e*=0y;r01e1=1y;r00c0=0x;r02c0=ce2x0x;r01d1=0x;r02a*=ebb;r01e0=a;r02d1=0x;r00e*=0y;r02c*=1x;",
         "m0d=0100;m0e=1110;m1a=1;m1b=1;m1c=11;m1d=0100;m1e=0101;r01d*=c2x;r00d*=ee0yc2xa;r01e*=ee2ye1yb0x;r02e*=1x;r02e0=a;r00c0=d1xd1x0x;r00e0=1x;r00c*=1x;r01e0=b;r02d0=1x;r01c0=c1x;r00e1=0x;r01e0=d0y0x;r02d1=a;r02d0=0x;r01e*=0x;",
         "m0c=11;m0d=0001;m0e=0001;m1b=1;m1c=10;m1d=0110;m1e=1110;r02d0=0x;r00d0=b;r02d*=e0x2y;r00d1=2y;r01e0=1y;r00e1=1x;r01c0=0x;r02e*=ce0x0x;r01c*=1x;r00d*=0x;r00d*=a;r02c0=1x;r01e0=b;r02e1=d1y0y;r01d*=d2yd2x2y;r02e1=0x;",
-        "m0c=01;m0d=1100;m0e=0001;m1d=1001;m1e=0100;r00e1=a;r01d1=1y;r02d0=0y;r01d*=d2x2y;r00c0=c0x;r02c0=da0x;r02c0=1x;r02e1=0y;r00d1=2y;r00d1=eab;r01e1=1y;r02c0=b;r02d1=d2x1x;r02d1=1x;r00d0=c1y;r02c1=d1x2x;"
+        "m0c=01;m0d=1100;m0e=0001;m1d=1001;m1e=0100;r00e1=a;r01d1=1y;r02d0=0y;r01d*=d2x2y;r00c0=c0x;r02c0=da0x;r02c0=1x;r02e1=0y;r00d1=2y;r00d1=eab;r01e1=1y;r02c0=b;r02d1=d2x1x;r02d1=1x;r00d0=c1y;r02c1=d1x2x;",
+        "m0c=01;m0d=1100;m0e=0001;m1d=1001;r00e1=a;r01d*=d2x2y;r00c0=c0x;r02c0=da0x;r02e1=0y;r00e*=1y;",
+        "m0c=01;m0d=1100;m0e=0001;m1d=1001;r00e1=a;r01d*=d2x2y;r02c0=da0x;r02e1=0y;r00d0=c1y;",
+        "m0d=0100;m0e=1111;m1d=0111;m1e=1010;r01e*=1x;r00e*=b;r01d1=0x;r01d0=e1y1x;r00d0=d0ycb;r02d1=d1xb;",
+        "m0d=1110;m0e=0001;m1d=1001;r00e1=a;r01d1=1y;r01d*=d2x2y;r02c0=1x;r02e1=0y;r00d1=2y;",
+        "m0d=1110;m0e=1011;r01c0=b;r00a*=b;r01e*=a;r01d*=0x;r02e1=b;r00d1=a;r01b*=a;r02d*=a;r02b0=a;r02a0=b;r02c0=a;r00b0=b;r00e*=d1ya;r01a*=a;r02e*=1x;r00c*=b;"
     };
 
     // ---- the class beside the model

@@ -1,69 +1,5 @@
 /** Each promise of the document: ordinary inputs, the edges that it names, wrong inputs. */
-public final class PromisesTest {
-    static final int BAD = -1, NO = -2, FULL = -3, NONE = -4;
-    static final int LOW = Integer.MIN_VALUE, HIGH = Integer.MAX_VALUE;
-    static final Due due = new Due("PromisesTest");
-
-    static TreePasses fresh() {
-        return new TreePasses();
-    }
-
-    static TreePasses told(String text) {
-        TreePasses x = fresh();
-        tell(x, text);
-        return x;
-    }
-
-    static void tell(TreePasses x, String text) {
-        x.wipe();
-        for (int i = 0; i < text.length(); i++) {
-            due.is("write", x.write(text.charAt(i)), i + 1);
-        }
-    }
-
-    static TreePasses laid(String text) {
-        TreePasses x = told(text);
-        due.isTrue("lay " + text, x.lay() > 0);
-        return x;
-    }
-
-    static int entered(TreePasses x, int r, String body) {
-        tell(x, body);
-        return x.enter(r);
-    }
-
-    static String row(int size, java.util.function.IntUnaryOperator letter) {
-        StringBuilder s = new StringBuilder();
-        for (int i = 0; i < size; i++) {
-            s.append((char) ('a' + letter.applyAsInt(i)));
-        }
-        return s.toString();
-    }
-
-    static String outOf(TreePasses x, int p, int q, int t) {
-        return row(x.out(p, q, t, -1), i -> x.out(p, q, t, i));
-    }
-
-    static String bothOf(TreePasses x, int t) {
-        return row(x.both(t, -1), i -> x.both(t, i));
-    }
-
-    static String oneOf(TreePasses x, int t) {
-        return row(x.one(t, -1), i -> x.one(t, i));
-    }
-
-    static String treeOf(TreePasses x, int t) {
-        return row(x.tree(t, -1), i -> x.tree(t, i));
-    }
-
-    static String leastOf(TreePasses x, int p, int profile) {
-        return row(x.least(p, profile, -1), i -> x.least(p, profile, i));
-    }
-
-    static void same(String what, String got, String want) {
-        due.isTrue(what + " is " + got + ", due is " + want, got.equals(want));
-    }
-
+public final class PromisesTest extends Bench {
     static void newObject() {
         TreePasses x = fresh();
         due.is("count 0", x.count(0), 13);
@@ -549,6 +485,7 @@ public final class PromisesTest {
     }
 
     public static void main(String[] args) {
+        due = new Due("PromisesTest");
         newObject();
         writeAndWipe();
         fault();
