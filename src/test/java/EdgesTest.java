@@ -129,6 +129,24 @@ public final class EdgesTest extends Bench {
         due.is("piece, BAD ahead of NONE", y.piece(1, 7), BAD);
     }
 
+    /** "two for c (its child being 0, then 1); four for d, e (its children being 00, 01, 10, 11)". */
+    static void valuesByChildren() {
+        String[] leaves = {"aa", "ab", "ba", "bb"};
+        for (int k = 0; k < 4; k++) {
+            for (int told = 0; told < 4; told++) {
+                String values = "0".repeat(told) + "1" + "0".repeat(3 - told);
+                for (String f : new String[] {"d", "e"}) {
+                    TreePasses x = laid("t0=" + f + leaves[k] + ";m0b=1;m0" + f + "=" + values + ";" + RULE);
+                    due.is("value of " + leaves[k] + " by " + values, x.value(0, 0, 0), k == told ? 1 : 0);
+                }
+            }
+        }
+        for (int k = 0; k < 4; k++) {
+            TreePasses x = laid("t0=c" + "ab".charAt(k / 2) + ";m1b=1;m1c=" + (k % 2 == 0 ? "10" : "01") + ";" + RULE);
+            due.is("value of c", x.value(1, 0, 0), k / 2 == k % 2 ? 1 : 0);
+        }
+    }
+
     // ---- acts
 
     /** "TAKEN OUT (those behind it are one number lower): how many are left". */
@@ -344,6 +362,32 @@ public final class EdgesTest extends Bench {
         due.is("both", down.both(0, -1), -60);
     }
 
+    /** What is left of a node's rule is gone on with behind what came of a call, and each pass is of its own KIND. */
+    static void oneGoesOn() {
+        String copies = "r10d*=d0x0y;r10e*=e0x0y;r10c*=c0x;r10a*=a;r10b*=b;";
+        String[] bodies = {"dcab dcab", "ddabb ddabb", "dd0xab ddaab", "ed0x0ycb edabcb", "d0x0y dab", "d0y0x dba", "dc0yec0xa dcbecaa",
+            "ddcabcb ddcabcb", "deab0y deabb"};
+        for (String told : bodies) {
+            String body = told.substring(0, told.indexOf(' '));
+            String made = told.substring(told.indexOf(' ') + 1);
+            TreePasses x = laid("t0=dab;r00d*=" + body + ";r00a*=a;r00b*=b;" + copies);
+            same("one of " + body, oneOf(x, 0), made);
+            same("both of " + body, bothOf(x, 0), made);
+        }
+        String rules = "t0=dab;r00d*=dc0xd0yb;r00a*=a;r00b*=b;" + copies;
+        String[] kinds = {"", "p02;", "p12;", "p02;p12;", "p01;p13;", "p03;p11;"};
+        String[] due = {"dcadbb", "dcbdab", "ddbbca", "ddbacb", "ddbbca", "dcbdab"};
+        for (int n = 0; n < kinds.length; n++) {
+            same("one, kinds " + kinds[n], oneOf(laid(kinds[n] + rules), 0), due[n]);
+            same("both, kinds " + kinds[n], bothOf(laid(kinds[n] + rules), 0), due[n]);
+        }
+        String passed = "t0=deabb;r00d*=0x;r00e*=0y;r00a*=a;r00b*=b;r10a*=a;r10b*=b;";
+        same("a call alone", oneOf(laid(passed), 0), "b");
+        same("a call alone, pass 0 mirrored", oneOf(laid("p02;" + passed), 0), "b");
+        same("a call alone, pass 1 mirrored", oneOf(laid("p12;t0=deabb;r00d*=0x;r00e*=0x;r00a*=a;r10a*=a;"), 0), "a");
+        same("a call alone, pass 0 mirrored", oneOf(laid("p02;t0=dbeba;r00d*=0x;r00e*=0x;r00a*=a;r10a*=a;"), 0), "a");
+    }
+
     /** "PASS 1 takes just such of its RULES whose L is *": of one with 0, one with 1, one with *. */
     static void oneTakesStars() {
         String tree = "t0=ca;r00c*=c0x;r00a*=a;r10a*=a;";
@@ -377,6 +421,13 @@ public final class EdgesTest extends Bench {
         }
         due.is("once in each of two", laid("r00c*=0x;r00c*=1x;").linear(0, 0), 1);
         due.is("mirrored", laid("p02;r00d*=d0x0y;").linear(0, 1), 1);
+        TreePasses x = laid("r00c*=0x;r00c*=d0x0x;r00c*=a;");
+        due.is("not linear", x.linear(0, 0), 0);
+        due.is("not whole", x.linear(0, 1), 0);
+        x.cut(2);
+        due.is("whole, the last being taken out", x.linear(0, 1), 1);
+        x.cut(1);
+        due.is("linear, the last being taken out", x.linear(0, 0), 1);
     }
 
     /** "how often a PASS comes to it .. till it is done, STUCK (that counts), LONG". */
@@ -433,6 +484,11 @@ public final class EdgesTest extends Bench {
         same("dab of dab, dba, eab, eba", leastOf(both, 0, 53), "dab");
         TreePasses late = laid("m0b=1;m0d=0010;m0e=1110;r00b*=a;");
         same("dba of dba, eaa", leastOf(late, 0, 53), "dba");
+        TreePasses inside = laid("m0e=1000;r00e*=a;r02e*=0y;");
+        same("eaeaeaa of eaeaeaa, eaeeaaa", leastOf(inside, 0, 13), "eaeaeaa");
+        TreePasses forty = laid("m0c=01;m0d=1100;m0e=0011;m1d=1001;r00e1=a;r02d0=0y;r01d*=d2x2y;r00c0=c0x;r02c0=da0x;r02e1=0y;"
+            + "r00d1=2y;r00d0=c1y;");
+        same("the first of several of 40", leastOf(forty, 0, 40), "dedaadacddaadddaaedaaaddaaedaaaddaaedaaa");
     }
 
     /** Programs whose state first makes an output of TYPE 0 of a tree of just so many nodes. */
@@ -488,6 +544,14 @@ public final class EdgesTest extends Bench {
         }
         TreePasses a = laid("m0a=1;r01a*=a;");
         due.is("a ahead of b, by letters", a.total(0, 0, 1), 1 + 4 + 0 + 36);
+        TreePasses zero = laid("r00a*=a;r01a*=a;r02a*=a;r00b*=a;r01b*=a;");
+        due.is("a ahead of b, profile 0 ahead of 36", zero.typed(0, 0, 1), 0);
+        TreePasses inside = laid("m0b=1;m0e=0101;r01e*=0y;r00e*=b;");
+        due.is("of two with as many nodes the first by letters", inside.typed(0, 1, 1), 36);
+        TreePasses forty = laid("m0c=01;m0d=1110;m0e=0001;m1d=1001;r00e1=a;r02d0=0y;r01d*=d2x2y;r02c0=da0x;r00d1=2y;r00d0=c1y;");
+        due.is("of two of 40 nodes", forty.typed(0, 1, 0), 40);
+        due.is("of two of 40 nodes the first by letters", forty.typed(0, 1, 1), 37);
+        due.is("the other one", forty.least(0, 39, -1), 40);
         TreePasses b = laid("m0b=1;r00a*=a;r01a*=a;");
         due.is("b ahead of ca, by nodes", b.total(0, 0, 1), 53);
         TreePasses far = laid("m0d=1110;m0e=1011;r01c0=b;r00a*=b;r01e*=a;r01d*=0x;r02e1=b;r00d1=a;r01b*=a;r02d*=a;r02b0=a;"
@@ -514,6 +578,73 @@ public final class EdgesTest extends Bench {
         due.is("none", one.typed(0, 0, 0), 0);
         one.undo();
         due.is("as it was", one.typed(0, 0, 0), 1);
+    }
+
+    /** What was answered of all trees holds no longer than what it was answered of. */
+    static void askedAgain() {
+        TreePasses x = laid("r00a*=a;r01a*=a;r02a*=a;r10b*=a;");
+        allTreesAre(x, "at first", 2, 1, 2, 1);
+        x.cut(3);
+        allTreesAre(x, "cut", 2, 1, 1, 0);
+        x.undo();
+        allTreesAre(x, "undone", 2, 1, 2, 1);
+        entered(x, 3, "00b*=a");
+        allTreesAre(x, "entered", 3, 1, 1, 0);
+        x.undo();
+        x.keep();
+        x.flip(0, 1, 0);
+        allTreesAre(x, "flipped", 3, 1, 2, 1);
+        x.flip(1, 0, 0);
+        allTreesAre(x, "flipped", 3, 0, 2, 0);
+        x.back();
+        allTreesAre(x, "back", 2, 1, 2, 1);
+        tell(x, "r00a*=a;r00b*=b;r00c*=a;r00d*=a;r00e*=a;");
+        x.lay();
+        allTreesAre(x, "laid", 1, 1, 1, 0);
+        entered(x, 5, "00c*=0x");
+        x.flip(1, 0, 0);
+        x.flip(1, 1, 0);
+        allTreesAre(x, "all of TYPE 1", 1, 0, 1, 0);
+        tell(x, "r00a*=b;r00b*=b;r00c*=0x;r00c*=a;m1b=1;");
+        x.lay();
+        due.is("PLAIN", x.typed(0, 0, 0), 0);
+        x.rename(0, 1);
+        due.is("LAST", x.typed(0, 0, 0), 2);
+        x.shift(3, 2);
+        due.is("LAST, shifted", x.typed(0, 0, 0), 0);
+    }
+
+    static void allTreesAre(TreePasses x, String when, int comes, int typed, int comesToo, int typedToo) {
+        due.is("comes 0, " + when, x.comes(0), comes);
+        due.is("typed 0, " + when, x.typed(0, 0, 0), typed);
+        due.is("comes 1, " + when, x.comes(1), comesToo);
+        due.is("typed 1, " + when, x.typed(1, 0, 0), typedToo);
+    }
+
+    /** What a text doesn't tell is as without, not as it was: "a without", "0 without", "noughts without". */
+    static void laidOverAnother() {
+        TreePasses x = laid("t0=dab;t1=ccb;t2=eba;p03;p12;m0a=1;m0b=1;m0c=11;m0d=1111;m0e=1111;m1a=1;m1b=1;m1c=11;m1d=1111;m1e=1111;"
+            + "r00a*=b;r11d1=e2y0x;");
+        tell(x, "t1=b;r00b0=a;");
+        due.is("lay", x.lay(), 1);
+        same("t0", treeOf(x, 0), "a");
+        same("t1", treeOf(x, 1), "b");
+        same("t2", treeOf(x, 2), "a");
+        due.is("kind 0", x.count(3), 0);
+        due.is("kind 1", x.count(4), 0);
+        for (int at = 0; at < 40; at++) {
+            due.isTrue("noughts", x.table(at / 20, at / 4 % 5, at % 4) <= 0);
+        }
+        due.is("rules", x.count(0), 1);
+        due.is("no other rule", x.rule(1, 0), BAD);
+        tell(x, "t2=eba;p01;m1e=1111;r00a*=b;r00a*=a");
+        due.is("refused", x.lay(), NO);
+        tell(x, RULE);
+        due.is("lay", x.lay(), 1);
+        same("t2, told where it was refused", treeOf(x, 2), "a");
+        due.is("kind, told where it was refused", x.count(3), 0);
+        due.is("value, told where it was refused", x.table(1, 4, 0), 0);
+        due.is("rules", x.count(0), 1);
     }
 
     // ---- kept
@@ -567,6 +698,7 @@ public final class EdgesTest extends Bench {
         numbersOfActs();
         numbersOfAsks();
         rows();
+        valuesByChildren();
         cutToNone();
         shiftAll();
         leafLetters();
@@ -578,6 +710,7 @@ public final class EdgesTest extends Bench {
         stuckAtEach();
         stuckFirst();
         oneLeavesOut();
+        oneGoesOn();
         oneTakesStars();
         linearOrWhole();
         visitsTill();
@@ -586,6 +719,8 @@ public final class EdgesTest extends Bench {
         fortyNodes();
         totalOrNot();
         typedOrNot();
+        askedAgain();
+        laidOverAnother();
         twoKept();
         laidForgets();
         due.end();

@@ -579,6 +579,8 @@ public final class ModelTest {
         "m0c=01;m0d=1100;m0e=0001;m1d=1001;r00e1=a;r01d*=d2x2y;r02c0=da0x;r02e1=0y;r00d0=c1y;",
         "m0d=0100;m0e=1111;m1d=0111;m1e=1010;r01e*=1x;r00e*=b;r01d1=0x;r01d0=e1y1x;r00d0=d0ycb;r02d1=d1xb;",
         "m0d=1110;m0e=0001;m1d=1001;r00e1=a;r01d1=1y;r01d*=d2x2y;r02c0=1x;r02e1=0y;r00d1=2y;",
+        "m0c=01;m0d=1100;m0e=0011;m1d=1001;r00e1=a;r02d0=0y;r01d*=d2x2y;r00c0=c0x;r02c0=da0x;r02e1=0y;r00d1=2y;r00d0=c1y;",
+        "m0c=01;m0d=1110;m0e=0001;m1d=1001;r00e1=a;r02d0=0y;r01d*=d2x2y;r02c0=da0x;r00d1=2y;r00d0=c1y;",
         "m0d=1110;m0e=1011;r01c0=b;r00a*=b;r01e*=a;r01d*=0x;r02e1=b;r00d1=a;r01b*=a;r02d*=a;r02b0=a;r02a0=b;r02c0=a;r00b0=b;r00e*=d1ya;r01a*=a;r02e*=1x;r00c*=b;"
     };
 
