@@ -360,6 +360,10 @@ public final class EdgesTest extends Bench {
         TreePasses down = laid("t0=cccccccccca;r00c*=0x;r00a*=b;r10a*=b;");
         due.is("made of the last alone, pass 1 without a rule", down.one(0, -1), -20);
         due.is("both", down.both(0, -1), -60);
+        due.is("made of the last alone", laid("t0=cccccccccca;r00c*=0x;r00a*=b;r10b*=ca;").one(0, -1), 2);
+        due.is("pass 0 without a rule at the last", laid("t0=cccccccccca;r00c*=0x;r10b*=ca;").one(0, -1), -20);
+        TreePasses deep = laid("t0=cccccccccca;r00c*=cccccc0x;r00a*=ccccccb;r10c*=0x;r10b*=ca;");
+        due.is("67 letters between, which aren't counted", deep.one(0, -1), 2);
     }
 
     /** What is left of a node's rule is gone on with behind what came of a call, and each pass is of its own KIND. */
@@ -514,6 +518,11 @@ public final class EdgesTest extends Bench {
         due.is("41, which", z.typed(0, 2, 1), NONE);
         noneOf(z, 17);
         due.is("41, comes", z.comes(0), 15);
+        TreePasses second = laid(AT_40.replace("r0", "r1"));
+        due.is("40, pass 1", second.typed(1, 1, 0), 40);
+        due.is("40, pass 1, which", second.typed(1, 1, 1), 41);
+        due.is("40, pass 1, its last letter", second.least(1, 41, 39), 0);
+        due.is("40, pass 0", second.typed(0, 1, 0), 0);
         TreePasses w = laid(AT_42);
         due.is("42", w.typed(0, 1, 0), 41);
         due.is("42, which", w.typed(0, 1, 1), NONE);
